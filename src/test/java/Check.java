@@ -39,6 +39,21 @@ final class Check {
         }
     }
 
+    /** What a dish tells of itself and of its first targets. */
+    static int[] dump(DishPointer x, int targets) {
+        int[] all = new int[19 + 18 + 13 * targets];
+        for (int i = 0; i < 19; i++) {
+            all[i] = x.count(i);
+        }
+        for (int i = 0; i < 18; i++) {
+            all[19 + i] = x.axis(i / 9, i % 9);
+        }
+        for (int i = 0; i < 13 * targets; i++) {
+            all[37 + i] = x.target(i / 13, i % 13);
+        }
+        return all;
+    }
+
     static void end() {
         System.out.println(compared + " answers compared, " + wrong + " wrong");
         if (wrong != 0 || compared == 0) {

@@ -9,6 +9,7 @@ public final class MinutesTest {
         promise16BeginsWhenTheWindowDoes();
         promise16PushOnEvenDay();
         promise16PushOnOddDay();
+        promise16PushOnLaterDays();
         promise16PushAtOnce();
         promise16SlewIsLookedAtOnce();
         promise16DayOfTheFinishedSlewCounts();
@@ -151,6 +152,31 @@ public final class MinutesTest {
         Check.due(x.run(46), 1);
         Check.due(x.axis(0, 4), 40);
         Check.due(x.target(0, 10), 0);
+    }
+
+    private static void promise16PushOnLaterDays() {
+        DishPointer x = new DishPointer();
+        x.run(1440);
+        x.run(1440);
+        x.run(1440);
+        x.gust(3, 30);
+        x.add(27000, 4500, 0, 43200, 30, 0);
+        x.run(45);
+        Check.due(x.target(0, 10), -40);
+        // Begun again behind a hold, its slew is looked at again.
+        x = withTarget(1000, 5000, 600);
+        x.gust(1, 60);
+        x.gust(2, 30);
+        x.run(1439);
+        Check.due(x.target(0, 8), 1016);
+        Check.due(x.axis(0, 4), 40);
+        x.run(1441);
+        Check.due(x.target(0, 8), 2895);
+        Check.due(x.axis(0, 4), 40);
+        x.run(15);
+        Check.due(x.axis(0, 4), 0);
+        Check.due(x.run(600), 1);
+        Check.due(x.target(0, 10), 40);
     }
 
     private static void promise16PushAtOnce() {
@@ -454,28 +480,14 @@ public final class MinutesTest {
         x.gust(0, 30);
         x.gust(1, 60);
         x.type('a');
-        int[] before = dump(x);
+        int[] before = Check.dump(x, 1);
         x.ifRun(2000);
-        int[] after = dump(x);
+        int[] after = Check.dump(x, 1);
         for (int i = 0; i < before.length; i++) {
             Check.due(after[i], before[i]);
         }
         Check.due(x.run(46), 1);
         Check.due(x.target(0, 10), 40);
-    }
-
-    private static int[] dump(DishPointer x) {
-        int[] all = new int[19 + 18 + 13];
-        for (int i = 0; i < 19; i++) {
-            all[i] = x.count(i);
-        }
-        for (int i = 0; i < 18; i++) {
-            all[19 + i] = x.axis(i / 9, i % 9);
-        }
-        for (int i = 0; i < 13; i++) {
-            all[37 + i] = x.target(0, i);
-        }
-        return all;
     }
 
     private static void promise17Wrong() {

@@ -9,6 +9,7 @@ public final class QueueTest {
         promise11Limit();
         promise12Drop();
         promise12DropUnderWay();
+        promise12DropMovesAll();
         promise13Target();
         promise13TargetStates();
         promise13Wrong();
@@ -24,6 +25,7 @@ public final class QueueTest {
         promise18WhatIsNoChange();
         promise18KeepsTheText();
         promise18RestoresTheQueue();
+        promise18RestoresEverything();
         Check.end();
     }
 
@@ -90,6 +92,18 @@ public final class QueueTest {
         Check.due(x.add(7, 500, 0, 1, 1, 0), 9);
         Check.due(x.target(9, 0), 7);
         Check.due(x.target(8, 0), 900);
+        // In the place of one that was broken off, a target begins anew.
+        x = new DishPointer();
+        x.gust(1, 60);
+        for (int number = 0; number < 9; number++) {
+            x.add(0, 500, 40000, 40001, 1, 0);
+        }
+        x.add(9000, 4500, 1400, 5000, 100, 0);
+        x.run(1440);
+        Check.due(x.target(9, 11), 1);
+        x.drop(9);
+        Check.due(x.add(9000, 4500, 1400, 5000, 100, 0), 9);
+        Check.due(x.target(9, 11), 0);
     }
 
     private static void promise12Drop() {
@@ -143,6 +157,31 @@ public final class QueueTest {
         x.run(10);
         Check.due(x.target(0, 6), 3);
         Check.due(x.drop(0), 0);
+    }
+
+    private static void promise12DropMovesAll() {
+        DishPointer x = new DishPointer();
+        x.add(9000, 4500, 0, 200, 30, 5);
+        x.add(18000, 4500, 0, 300, 30, 4);
+        x.add(9000, 4500, 0, 400, 30, 3);
+        x.run(20);
+        x.set(2, 0);
+        x.run(100);
+        int[] second = {18000, 4500, 0, 300, 30, 4, 2, 46, 61, 91, 40, 0, 18000};
+        int[] third = {9000, 4500, 0, 400, 30, 3, 1, 91, 107, 137, NONE, 0, 9000};
+        Check.due(x.target(0, 10), 0);
+        Check.due(x.drop(0), 2);
+        for (int what = 0; what < 13; what++) {
+            Check.due(x.target(0, what), second[what]);
+            Check.due(x.target(1, what), third[what]);
+        }
+        x.undo();
+        int[] first = {9000, 4500, 0, 200, 30, 5, 2, 0, 16, 46, 0, 0, 9000};
+        for (int what = 0; what < 13; what++) {
+            Check.due(x.target(0, what), first[what]);
+            Check.due(x.target(1, what), second[what]);
+            Check.due(x.target(2, what), third[what]);
+        }
     }
 
     private static void promise13Target() {
@@ -388,11 +427,12 @@ public final class QueueTest {
         x.slew(9000, 4500);
         Check.due(x.count(10), 4);
         Check.due(x.undo(), 3);
-        int[] axis = {40, 0, 600, 0, 0, 0, 0, 0, 0};
-        for (int what = 0; what < axis.length; what++) {
-            Check.due(x.axis(0, what), axis[what]);
+        int[] azimuth = {40, 0, 600, 0, 0, 0, 0, 0, 0};
+        int[] elevation = {20, 0, 50, 9000, 0, 9000, 0, 0, 9000};
+        for (int what = 0; what < azimuth.length; what++) {
+            Check.due(x.axis(0, what), azimuth[what]);
+            Check.due(x.axis(1, what), elevation[what]);
         }
-        Check.due(x.axis(1, 3), 9000);
         Check.due(x.count(16), 0);
         Check.due(x.undo(), 2);
         Check.due(x.count(2), 0);
@@ -501,5 +541,65 @@ public final class QueueTest {
         x.set(2, 0);
         x.run(1);
         Check.due(x.axis(0, 4), 0);
+    }
+
+    private static void promise18RestoresEverything() {
+        DishPointer x = new DishPointer();
+        x.gust(0, 30);
+        x.slew(27000, 5000);
+        x.add(18000, 4500, 0, 5000, 10, 5);
+        x.add(9000, 4500, 0, 5000, 10, 4);
+        x.run(60);
+        Check.due(x.target(1, 6), 1);
+        int[] before = Check.dump(x, 2);
+        changeOne(x, 1);
+        x.undo();
+        dueDump(x, before);
+        x.drop(0);
+        x.undo();
+        dueDump(x, before);
+        for (int kind = 0; kind < 5; kind++) {
+            changeOne(x, kind);
+            x.undo();
+            dueDump(x, before);
+        }
+        for (int change = 0; change < 5; change++) {
+            changeOne(x, change);
+        }
+        while (x.count(10) > 0) {
+            x.undo();
+        }
+        dueDump(x, before);
+    }
+
+    /** One change of each kind. */
+    private static void changeOne(DishPointer x, int kind) {
+        switch (kind) {
+            case 0:
+                x.setAxis(0, 0, 7);
+                break;
+            case 1:
+                x.setAxis(1, 1, 2);
+                break;
+            case 2:
+                x.setAxis(0, 2, 9);
+                break;
+            case 3:
+                x.gust(1, 77);
+                break;
+            default:
+                x.run(2000);
+                break;
+        }
+    }
+
+    /** The dump was made with five states in the history, of which each change and undo takes the oldest. */
+    private static void dueDump(DishPointer x, int[] before) {
+        int[] after = Check.dump(x, 2);
+        for (int i = 0; i < before.length; i++) {
+            if (i != 10) {
+                Check.due("number " + i + " behind undo", after[i], before[i]);
+            }
+        }
     }
 }

@@ -3,13 +3,17 @@ import java.util.List;
 
 /** Long runs of calls, of which every answer is compared with that of the Model. */
 public final class ModelTest {
-    private static final int OBJECTS = 120;
-    private static final int CALLS = 500;
+    private static final int OBJECTS = 1000;
+    // An object is used for at most 512 calls; the last of them look at everything.
+    private static final int MOST_CALLS = 512;
+    private static final int CALLS_OF_STEPS = 270;
+    private static final int GLANCES = 3;
 
     private final DishPointer dish = new DishPointer();
     private final Model model = new Model();
     private final List<String> told = new ArrayList<>();
     private long seed;
+    private int calls = 0;
 
     private ModelTest(int number) {
         seed = number;
@@ -25,16 +29,21 @@ public final class ModelTest {
                 System.exit(1);
             }
         }
-        System.out.println(OBJECTS + " objects, " + CALLS + " calls each, as the model answers");
+        System.out.println(OBJECTS + " objects, up to " + MOST_CALLS + " calls each, as the model answers");
     }
 
     private boolean passes() {
-        for (int i = 0; i < CALLS; i++) {
-            if (!step() || !looksTheSame(i % 8 == 0)) {
+        while (calls < CALLS_OF_STEPS) {
+            if (!step()) {
                 return false;
             }
+            for (int i = 0; i < GLANCES; i++) {
+                if (!glance()) {
+                    return false;
+                }
+            }
         }
-        return true;
+        return looksTheSame() && calls <= MOST_CALLS;
     }
 
     /** The same numbers on every machine. */
@@ -52,6 +61,7 @@ public final class ModelTest {
     }
 
     private boolean same(String call, int got, int want) {
+        calls++;
         told.add(call + " = " + got + (got == want ? "" : ", the model answers " + want));
         return got == want;
     }
@@ -66,8 +76,8 @@ public final class ModelTest {
     }
 
     private int minutes() {
-        int toNextDay = 1440 - dish.count(0) % 1440;
-        int untilDone = Math.max(0, dish.count(9));
+        int toNextDay = 1440 - model.count(0) % 1440;
+        int untilDone = Math.max(0, model.count(9));
         switch (pick(8)) {
             case 0:
                 return oneOf(0, 0, 1, -1, 2000, 2001);
@@ -113,14 +123,14 @@ public final class ModelTest {
         if (kind < 40) {
             int a = azimuth();
             int e = Math.min(elevation(), 8501);
-            int f = Math.max(0, dish.count(0) + pick(-50, oneOf(5, 50, 1500)));
+            int f = Math.max(0, model.count(0) + pick(-50, oneOf(5, 50, 1500)));
             int t = f + pick(1, oneOf(60, 300, 3000));
             int d = oneOf(pick(1, 20), pick(1, 100), pick(0, 601));
             int p = oneOf(0, 1, 2, pick(0, 9));
             String call = "add(" + a + ", " + e + ", " + f + ", " + t + ", " + d + ", " + p + ")";
             return same(call, dish.add(a, e, f, t, d, p), model.add(a, e, f, t, d, p));
         }
-        int n = pick(-1, dish.count(4));
+        int n = pick(-1, model.count(4));
         return same("drop(" + n + ")", dish.drop(n), model.drop(n));
     }
 
@@ -139,7 +149,7 @@ public final class ModelTest {
             String call = "setAxis(" + axis + ", " + what + ", " + value + ")";
             return same(call, dish.setAxis(axis, what, value), model.setAxis(axis, what, value));
         }
-        int day = dish.count(1) + pick(-1, 3);
+        int day = model.count(1) + pick(-1, 3);
         int gust = oneOf(0, 29, 30, 45, 59, 60, 70, 99, 100, -1);
         return same("gust(" + day + ", " + gust + ")", dish.gust(day, gust), model.gust(day, gust));
     }
@@ -151,11 +161,11 @@ public final class ModelTest {
             return same("slew(" + a + ", " + e + ")", dish.slew(a, e), model.slew(a, e));
         }
         if (kind < 78) {
-            int a = oneOf(azimuth(), Math.floorMod(dish.axis(0, 5) + pick(-3, 3), 36000));
+            int a = oneOf(azimuth(), Math.floorMod(model.axis(0, 5) + pick(-3, 3), 36000));
             return same("placeFor(" + a + ")", dish.placeFor(a), model.placeFor(a));
         }
         int axis = pick(2);
-        int place = oneOf(pick(-27001, 27001), dish.axis(axis, 5) + pick(-2, 2), pick(490, 9010));
+        int place = oneOf(pick(-27001, 27001), model.axis(axis, 5) + pick(-2, 2), pick(490, 9010));
         for (int what = -1; what <= 4; what++) {
             String call = "way(" + axis + ", " + place + ", " + what + ")";
             if (!same(call, dish.way(axis, place, what), model.way(axis, place, what))) {
@@ -184,23 +194,60 @@ public final class ModelTest {
         return true;
     }
 
-    private boolean looksTheSame(boolean whole) {
+    /** One question of any kind. */
+    private boolean glance() {
+        int n = pick(-1, model.count(4));
+        int axis = pick(2);
+        int what = pick(-1, 13);
+        switch (pick(8)) {
+            case 0:
+                return same("axis(" + axis + ", " + what + ")", dish.axis(axis, what), model.axis(axis, what));
+            case 1:
+            case 2:
+                return same("target(" + n + ", " + what + ")", dish.target(n, what), model.target(n, what));
+            case 3:
+                return same("why(" + n + ")", dish.why(n), model.why(n));
+            case 4:
+                return same("next()", dish.next(), model.next());
+            case 5:
+                return same("axis(0, 4)", dish.axis(0, 4), model.axis(0, 4));
+            default:
+                int number = pick(-1, 19);
+                return same("count(" + number + ")", dish.count(number), model.count(number));
+        }
+    }
+
+    private boolean looksTheSame() {
         boolean same = true;
-        for (int what = -1; same && what <= 19; what++) {
+        for (int what = 0; same && what <= 18; what++) {
             same = same("count(" + what + ")", dish.count(what), model.count(what));
         }
         for (int i = 0; same && i < 18; i++) {
             same = same("axis(" + i / 9 + ", " + i % 9 + ")", dish.axis(i / 9, i % 9), model.axis(i / 9, i % 9));
         }
-        for (int n = -1; same && n <= dish.count(4); n++) {
+        for (int n = 0; same && n < model.count(4); n++) {
             same = same("why(" + n + ")", dish.why(n), model.why(n));
-            for (int what = whole ? -1 : 6; same && what <= 13; what++) {
+            for (int what = 0; same && what <= 12; what++) {
                 same = same("target(" + n + ", " + what + ")", dish.target(n, what), model.target(n, what));
             }
         }
         return same && same("next()", dish.next(), model.next())
             && same("isWound()", dish.isWound(), model.isWound())
             && same("fault(0)", dish.fault(0), model.fault(0))
-            && same("fault(1)", dish.fault(1), model.fault(1));
+            && same("fault(1)", dish.fault(1), model.fault(1))
+            && undoneTheSame();
+    }
+
+    private boolean undoneTheSame() {
+        for (int left = model.count(10); left >= 0; left--) {
+            if (!same("undo()", dish.undo(), model.undo())
+                    || !same("axis(0, 4)", dish.axis(0, 4), model.axis(0, 4))
+                    || !same("run(20)", dish.run(20), model.run(20))
+                    || !same("axis(0, 4)", dish.axis(0, 4), model.axis(0, 4))
+                    || !same("undo()", dish.undo(), model.undo())) {
+                return false;
+            }
+        }
+        return true;
     }
 }

@@ -543,7 +543,7 @@ public final class QueueTest {
         Check.due(x.axis(0, 4), 0);
     }
 
-    private static void promise18RestoresEverything() {
+    private static DishPointer withTwoTargets() {
         DishPointer x = new DishPointer();
         x.gust(0, 30);
         x.slew(27000, 5000);
@@ -551,18 +551,22 @@ public final class QueueTest {
         x.add(9000, 4500, 0, 5000, 10, 4);
         x.run(60);
         Check.due(x.target(1, 6), 1);
+        return x;
+    }
+
+    private static void promise18RestoresEverything() {
+        DishPointer x = withTwoTargets();
         int[] before = Check.dump(x, 2);
-        changeOne(x, 1);
-        x.undo();
-        dueDump(x, before);
         x.drop(0);
         x.undo();
         dueDump(x, before);
         for (int kind = 0; kind < 5; kind++) {
+            x = withTwoTargets();
             changeOne(x, kind);
             x.undo();
             dueDump(x, before);
         }
+        x = withTwoTargets();
         for (int change = 0; change < 5; change++) {
             changeOne(x, change);
         }

@@ -1,45 +1,67 @@
 import java.lang.management.ManagementFactory;
 
-/** All rows are made in the constructor: no later call makes an object. */
+/** What the constructor and the calls of one dish make stays far below the room that all calls of a run have. */
 public final class RoomTest {
-    private static final int CALLS = 500;
-    // What the machine itself may take aside, far less than a byte a call of one object would be.
-    private static final long ASIDE = 4096;
+    // The room holds some 600,000 objects with 7.3 million fields and elements; this is a tenth of it in bytes.
+    private static final long SHARE = 7_300_000L * 4 / 10;
+    private static final int MOST_CALLS = 512;
+
+    private static final com.sun.management.ThreadMXBean THREADS =
+        (com.sun.management.ThreadMXBean) ManagementFactory.getThreadMXBean();
 
     public static void main(String[] args) {
-        com.sun.management.ThreadMXBean threads =
-            (com.sun.management.ThreadMXBean) ManagementFactory.getThreadMXBean();
-        long thread = Thread.currentThread().getId();
-        use(new DishPointer());
-        use(new DishPointer());
-
-        long first = threads.getThreadAllocatedBytes(thread);
-        DishPointer dish = new DishPointer();
-        long made = threads.getThreadAllocatedBytes(thread);
-        use(dish);
-        long used = threads.getThreadAllocatedBytes(thread);
-
-        System.out.println("the constructor takes " + (made - first) + " bytes, the calls " + (used - made));
-        Check.due("a dish is small", made - first < 20000, true);
-        Check.due("calls make nothing", used - made < ASIDE, true);
+        for (int kind = 0; kind < 8; kind++) {
+            made(kind, 10);
+            long bytes = made(kind, MOST_CALLS - 10);
+            System.out.println("a dish and its calls of kind " + kind + " make " + bytes + " bytes");
+            Check.due("little is made", bytes < SHARE, true);
+        }
         Check.end();
     }
 
-    private static void use(DishPointer dish) {
-        int sum = 0;
-        for (int i = 0; i < CALLS; i++) {
-            sum += dish.set(i % 4, i % 100);
-            sum += dish.setAxis(i % 2, i % 3, i % 3);
-            sum += dish.gust(i % 30, i % 100);
-            sum += dish.add(i * 70, 500 + i, i, i + 2000, 1 + i % 30, i % 10);
-            sum += dish.slew(i * 70, 500 + i) + dish.placeFor(i) + dish.way(i % 2, i, i % 4);
-            sum += dish.count(i % 19) + dish.axis(i % 2, i % 9) + dish.target(i % 10, i % 13);
-            sum += dish.why(i % 10) + dish.next() + dish.ifRun(100) + dish.run(i % 3) + dish.isWound();
-            sum += dish.type("a0e500f0t1d1;".charAt(i % 13)) + dish.fault(i % 2) + dish.enter();
-            sum += dish.drop(i % 10) + (i % 50 == 0 ? dish.undo() + dish.clearText() : 0);
+    private static long made(int kind, int calls) {
+        long thread = Thread.currentThread().getId();
+        long before = THREADS.getThreadAllocatedBytes(thread);
+        DishPointer dish = new DishPointer();
+        for (int number = 0; number < 10; number++) {
+            dish.add(100 * number, 4500, 0, 43200, 600, number);
         }
-        if (sum == 0) {
-            System.out.println("all answers together are 0");
+        for (int i = 0; i < calls; i++) {
+            use(dish, kind, i);
+        }
+        return THREADS.getThreadAllocatedBytes(thread) - before;
+    }
+
+    private static void use(DishPointer dish, int kind, int i) {
+        switch (kind) {
+            case 0:
+                dish.set(i % 4, i % 100);
+                break;
+            case 1:
+                dish.run(i % 100);
+                break;
+            case 2:
+                dish.ifRun(2000);
+                break;
+            case 3:
+                dish.slew(i * 70 % 36000, 500 + i);
+                break;
+            case 4:
+                dish.type("a0e500f0t1d1;".charAt(i % 13));
+                break;
+            case 5:
+                dish.enter();
+                break;
+            case 6:
+                dish.next();
+                break;
+            default:
+                if (i % 2 == 0) {
+                    dish.drop(i % 10);
+                } else {
+                    dish.undo();
+                }
+                break;
         }
     }
 }

@@ -96,6 +96,17 @@ final class Check {
         }
     }
 
+    /** The place and the reason of the fault that a text has on a new dish, both NOT_FOUND for none. */
+    static void dueFault(String text, int place, int reason) {
+        dueFault(new DishPointer(), text, place, reason);
+    }
+
+    static void dueFault(DishPointer dish, String text, int place, int reason) {
+        write(dish, text);
+        due("place of fault in " + text, dish.fault(0), place);
+        due("reason of fault in " + text, dish.fault(1), reason);
+    }
+
     /** Lets more minutes go by than one run can. */
     static void pass(DishPointer dish, int minutes) {
         for (int left = minutes; left > 0; left -= 2000) {
@@ -118,7 +129,7 @@ final class Check {
         return all;
     }
 
-    /** Two dishes tell the same, now and behind each undo; less than 300 calls on each. */
+    /** Two dishes tell the same, now and behind each undo; less than 370 calls on each. */
     static void dueSame(String what, DishPointer one, DishPointer other) {
         dueSameDump(what, one, other, one.count(4));
         due(what + ": next", one.next(), other.next());

@@ -32,7 +32,8 @@ public final class EdgeChangesTest {
         Check.end();
     }
 
-    private static void dueChange(int states, Consumer<DishPointer> setup, ToIntFunction<DishPointer> call, int answer) {
+    private static void dueChange(int states, Consumer<DishPointer> setup, ToIntFunction<DishPointer> call,
+            int answer) {
         DishPointer x = new DishPointer();
         setup.accept(x);
         int before = x.count(10);

@@ -6,6 +6,7 @@ public final class EdgeDaysTest {
         timeBegins();
         timeEnds();
         daysHaveMinutes();
+        daysAreRoundedDown();
         dayThirty();
         gusts();
         limits();
@@ -30,6 +31,8 @@ public final class EdgeDaysTest {
         promise4Ranges();
         promise4Past();
         promise5Ranges();
+        promise5KindOfDay();
+        promise5Counts();
         promise5Targets();
         promise5UntilDone();
         promise5Azimuth();
@@ -78,6 +81,17 @@ public final class EdgeDaysTest {
             x.run(1);
         }
         Check.dueFrom(0, (dish, what) -> dish.count(what), x, 43200, 30, 0);
+    }
+
+    private static void daysAreRoundedDown() {
+        Check.sentence("divisions are rounded down, if nothing else is said");
+        int[] minutes = {0, 1, 719, 720, 1439, 1440, 1441, 2000};
+        int[] days = {0, 0, 0, 0, 0, 1, 1, 1};
+        for (int i = 0; i < minutes.length; i++) {
+            DishPointer x = new DishPointer();
+            x.run(minutes[i]);
+            Check.due("the day of the minute " + minutes[i], x.count(1), days[i]);
+        }
     }
 
     private static void dayThirty() {
@@ -453,6 +467,23 @@ public final class EdgeDaysTest {
             x.run(40);
             Check.due(x.axis(0, 4), 40);
         }
+        // Neither the slack 0 on an odd day nor the slack 40 on an even one is pushed away.
+        int[] days = {1, 2};
+        int[] azimuths = {27000, 9000};
+        for (int i = 0; i < 2; i++) {
+            DishPointer x = new DishPointer();
+            x.gust(days[i], 60);
+            x.add(azimuths[i], 4500, 1440 * days[i] - 5, 43200, 100, 1);
+            Check.pass(x, 1440 * days[i] - 1);
+            int slack = 40 * i;
+            Check.due(x.target(0, 6), 1);
+            Check.due(x.axis(0, 4), slack);
+            x.run(1);
+            Check.due(x.target(0, 11), 1);
+            Check.due(x.axis(0, 4), slack);
+            x.run(1439);
+            Check.due(x.axis(0, 4), slack);
+        }
     }
 
     private static void elevationGoesUp() {
@@ -469,6 +500,16 @@ public final class EdgeDaysTest {
             Check.dueFrom(6, (dish, what) -> dish.axis(1, what), x, 9000 - elevation, 9000 - elevation, 9000);
             Check.due(x.axis(0, 3), 0);
             Check.due(x.count(16), 1);
+        }
+        // Each hold leads it up, as often as one begins.
+        DishPointer often = new DishPointer();
+        for (int day = 1; day <= 9; day += 2) {
+            often.gust(day, 60);
+            often.slew(0, 5000);
+            often.run(1440);
+            Check.due(often.axis(1, 3), 9000);
+            Check.due(often.count(17), (day + 1) / 2);
+            often.run(1440);
         }
         // The side of the elevation does not matter.
         DishPointer x = new DishPointer();
@@ -565,6 +606,50 @@ public final class EdgeDaysTest {
         Check.dueFrom(-1, (x, what) -> x.count(what), new DishPointer(), Check.INVALID, 0);
         Check.dueFrom(18, (x, what) -> x.count(what), new DishPointer(), 0, Check.INVALID);
         Check.dueFrom(8, (x, what) -> x.count(what), new DishPointer(), NONE, NONE, 0);
+    }
+
+    private static void promise5KindOfDay() {
+        Check.sentence("3: 0 if it is a hold, 1 if it is a push, otherwise 2");
+        DishPointer x = new DishPointer();
+        x.gust(0, 29);
+        x.gust(1, 30);
+        x.gust(2, 60);
+        Check.dueFrom(1, (dish, what) -> dish.count(what), x, 0, 29, 2);
+        x.run(1439);
+        Check.dueFrom(1, (dish, what) -> dish.count(what), x, 0, 29, 2);
+        x.run(1);
+        Check.dueFrom(1, (dish, what) -> dish.count(what), x, 1, 30, 1);
+        x.run(1440);
+        Check.dueFrom(1, (dish, what) -> dish.count(what), x, 2, 60, 0);
+        x.run(1440);
+        Check.dueFrom(1, (dish, what) -> dish.count(what), x, 3, 0, 2);
+    }
+
+    private static void promise5Counts() {
+        Check.sentence("10: states in the history; 11: the length of the text; 12 to 15: the settings 0 to 3; "
+            + "16: slews (of targets that were begun, and by slew); 17: holds that have begun");
+        DishPointer x = new DishPointer();
+        Check.dueFrom(10, (dish, what) -> dish.count(what), x, 0, 0, 100, 18000, 30, 60, 0, 0);
+        x.set(0, 1);
+        x.set(1, 2);
+        x.set(2, 3);
+        x.set(3, 99);
+        x.type('x');
+        Check.dueFrom(10, (dish, what) -> dish.count(what), x, 4, 1, 1, 2, 3, 99, 0, 0);
+        x.slew(0, 9000);
+        x.add(9000, 4500, 0, 200, 30, 1);
+        Check.due(x.slew(0, 9001), Check.INVALID);
+        Check.due(x.count(16), 1);
+        x.run(0);
+        Check.due(x.count(16), 2);
+        x.run(2000);
+        Check.due(x.count(16), 2);
+        x.gust(2, 99);
+        x.gust(3, 99);
+        x.run(2000);
+        Check.dueFrom(10, (dish, what) -> dish.count(what), x, 5, 1, 1, 2, 3, 99, 2, 1);
+        x.run(2000);
+        Check.dueFrom(10, (dish, what) -> dish.count(what), x, 5, 1, 1, 2, 3, 99, 2, 2);
     }
 
     private static void promise5Targets() {

@@ -403,13 +403,21 @@ public final class EdgeMinutesTest {
 
     private static void holdAheadOfPush() {
         Check.sentence("A hold begins ahead of all this at its first minute.");
-        // The slew would be finished at the first minute of the hold.
-        DishPointer x = withTarget(1424, 5000, 16);
-        x.gust(0, 30);
-        x.gust(1, 60);
-        x.run(1440);
-        Check.due(x.axis(0, 4), 40);
-        Check.due(x.target(0, 11), 1);
+        // The slew would be finished at the first minute of the hold, which is odd or even.
+        int[] azimuths = {27000, 9000};
+        int[] times = {15, 16};
+        for (int day = 1; day <= 2; day++) {
+            DishPointer x = new DishPointer();
+            x.add(azimuths[day - 1], 4500, 1440 * day - times[day - 1], 43200, 100, 1);
+            x.gust(day, 60);
+            Check.pass(x, 1440 * day - 1);
+            Check.due(x.target(0, 8), 1440 * day);
+            x.run(1);
+            Check.due(x.axis(0, 4), 40 * (day - 1));
+            Check.due(x.target(0, 11), 1);
+            x.run(1);
+            Check.due(x.axis(0, 4), 40 * (day - 1));
+        }
     }
 
     private static void holdAheadOfMissed() {

@@ -13,6 +13,7 @@ public final class EdgeTargetsTest {
         reasonHold();
         reasonBeforeWindow();
         reasonElevation();
+        reasonAzimuth();
         reasonEndOfWindow();
         firstReason();
         begunAtOnce();
@@ -22,10 +23,12 @@ public final class EdgeTargetsTest {
         error();
         errorOfTheMinute();
         setWhileUnderWay();
+        promise11Ranges();
         promise11Numbers();
         promise11Full();
         promise12Numbers();
         promise12Later();
+        promise12LaterOfAllStates();
         promise12UnderWay();
         promise13Ranges();
         promise13NotFound();
@@ -239,6 +242,24 @@ public final class EdgeTargetsTest {
         Check.dueFrom(0, (dish, number) -> dish.why(number), x, 0, 0, 5);
     }
 
+    /** With every side, and the play and the overshoot at their greatest, one of the two places is left. */
+    private static void reasonAzimuth() {
+        Check.sentence("6 its azimuth has none");
+        int[] azimuths = {0, 8999, 9000, 9499, 9500, 18000, 26200, 26201, 26960, 26961, 35999};
+        for (int side = 0; side < 3; side++) {
+            for (int azimuth : azimuths) {
+                DishPointer x = new DishPointer();
+                x.set(0, 500);
+                x.setAxis(0, 0, 300);
+                x.setAxis(0, 1, side);
+                x.add(azimuth, 4500, 0, 200, 30, 1);
+                Check.due("the reason for " + azimuth, x.why(0), 0);
+                x.run(100);
+                Check.due(x.target(0, 6), 2);
+            }
+        }
+    }
+
     private static void reasonEndOfWindow() {
         Check.sentence("7 the slew and the dwell would end after the end of its window");
         // 16 minutes of slew and 30 of dwell.
@@ -427,6 +448,31 @@ public final class EdgeTargetsTest {
         Check.due(x.axis(1, 3), 4500);
     }
 
+    private static void promise11Ranges() {
+        Check.sentence("- `azimuth`: 0 to 35999\n- `elevation`: 500 to 8500\n- `from`: 0 to 43200\n"
+            + "- `to`: 0 to 43200, greater than from\n- `dwell`: 1 to 600\n- `priority`: 0 to 9\n");
+        int[] least = {0, 500, 0, 1, 1, 0};
+        int[] most = {35999, 8500, 43199, 43200, 600, 9};
+        // All at their least, all at their greatest; then one of them just outside.
+        Check.due(addAll(least), 0);
+        Check.due(addAll(most), 0);
+        for (int argument = 0; argument < 6; argument++) {
+            int[] below = least.clone();
+            below[argument]--;
+            Check.due(addAll(below), Check.INVALID);
+            int[] above = most.clone();
+            above[argument]++;
+            Check.due(addAll(above), Check.INVALID);
+        }
+        for (int extreme : new int[] {Integer.MIN_VALUE, Integer.MAX_VALUE}) {
+            Check.due(addAll(extreme, extreme, extreme, extreme, extreme, extreme), Check.INVALID);
+        }
+    }
+
+    private static int addAll(int... numbers) {
+        return new DishPointer().add(numbers[0], numbers[1], numbers[2], numbers[3], numbers[4], numbers[5]);
+    }
+
     private static void promise11Numbers() {
         Check.sentence("Returns the number of the target; INVALID_ARGUMENT if an argument is out of range; "
             + "LIMIT_REACHED if there are 10.");
@@ -490,6 +536,44 @@ public final class EdgeTargetsTest {
             }
             Check.due(x.target(9, 0), Check.INVALID);
             Check.due(x.why(9), Check.INVALID);
+        }
+    }
+
+    private static void promise12LaterOfAllStates() {
+        Check.sentence("Removes a target; the numbers of the later ones decrease by 1.");
+        DishPointer x = new DishPointer();
+        x.gust(0, 30);
+        x.add(9000, 4500, 0, 10, 30, 9);
+        x.add(9000, 4500, 0, 200, 30, 5);
+        x.add(18000, 4500, 0, 300, 20, 4);
+        x.add(27000, 4500, 0, 400, 10, 3);
+        x.add(0, 8000, 500, 600, 10, 2);
+        x.run(83);
+        int[][] told = {
+            {9000, 4500, 0, 200, 30, 5, 2, 0, 16, 46, 40, 0, 9000},
+            {18000, 4500, 0, 300, 20, 4, 2, 46, 61, 81, 40, 0, 18000},
+            {27000, 4500, 0, 400, 10, 3, 1, 81, 127, 137, NONE, 0, -9000},
+            {0, 8000, 500, 600, 10, 2, 0, NONE, NONE, NONE, NONE, 0, NONE}};
+        Check.due(x.target(0, 6), 3);
+        for (int number = 0; number < 4; number++) {
+            int later = number + 1;
+            Check.dueFrom(0, (dish, what) -> dish.target(later, what), x, told[number]);
+        }
+        Check.due(x.drop(0), 4);
+        for (int number = 0; number < 4; number++) {
+            int same = number;
+            Check.dueFrom(0, (dish, what) -> dish.target(same, what), x, told[number]);
+        }
+        Check.due(x.drop(0), 3);
+        Check.dueFrom(0, (dish, what) -> dish.target(0, what), x, told[1]);
+        Check.dueFrom(0, (dish, what) -> dish.target(1, what), x, told[2]);
+        // With this undone, the earlier ones are back, with all their numbers.
+        Check.due(x.undo(), 4);
+        Check.due(x.undo(), 3);
+        Check.due(x.target(0, 6), 3);
+        for (int number = 0; number < 4; number++) {
+            int later = number + 1;
+            Check.dueFrom(0, (dish, what) -> dish.target(later, what), x, told[number]);
         }
     }
 

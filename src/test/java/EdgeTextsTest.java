@@ -34,16 +34,6 @@ public final class EdgeTextsTest {
         Check.end();
     }
 
-    private static void dueFault(String text, int place, int reason) {
-        dueFault(new DishPointer(), text, place, reason);
-    }
-
-    private static void dueFault(DishPointer x, String text, int place, int reason) {
-        Check.write(x, text);
-        Check.due("place of fault in " + text, x.fault(0), place);
-        Check.due("reason of fault in " + text, x.fault(1), reason);
-    }
-
     private static DishPointer withTargets(int number) {
         DishPointer x = new DishPointer();
         for (int i = 0; i < number; i++) {
@@ -78,21 +68,21 @@ public final class EdgeTextsTest {
 
     private static void targetsFollowed() {
         Check.sentence("targets, each followed by \";\"");
-        dueFault(LEAST, NONE, NONE);
-        dueFault(LEAST.substring(0, 12), 0, 1);
-        dueFault(LEAST + LEAST, NONE, NONE);
-        dueFault(LEAST + LEAST.substring(0, 12), 13, 1);
-        dueFault(";", 0, 1);
-        dueFault(";" + LEAST, 0, 1);
-        dueFault(LEAST + ";", 13, 1);
-        dueFault(LEAST + ";" + LEAST, 13, 1);
-        dueFault(LEAST.replace(';', ','), 0, 1);
-        dueFault(LEAST.replace(';', ':'), 0, 1);
-        dueFault(LEAST.replace(';', '<'), 0, 1);
-        dueFault(LEAST.replace(';', ' ') + LEAST, 0, 1);
-        dueFault(LEAST + " ", 13, 1);
-        dueFault(" " + LEAST, 0, 1);
-        dueFault(LEAST + " " + LEAST, 13, 1);
+        Check.dueFault(LEAST, NONE, NONE);
+        Check.dueFault(LEAST.substring(0, 12), 0, 1);
+        Check.dueFault(LEAST + LEAST, NONE, NONE);
+        Check.dueFault(LEAST + LEAST.substring(0, 12), 13, 1);
+        Check.dueFault(";", 0, 1);
+        Check.dueFault(";" + LEAST, 0, 1);
+        Check.dueFault(LEAST + ";", 13, 1);
+        Check.dueFault(LEAST + ";" + LEAST, 13, 1);
+        Check.dueFault(LEAST.replace(';', ','), 0, 1);
+        Check.dueFault(LEAST.replace(';', ':'), 0, 1);
+        Check.dueFault(LEAST.replace(';', '<'), 0, 1);
+        Check.dueFault(LEAST.replace(';', ' ') + LEAST, 0, 1);
+        Check.dueFault(LEAST + " ", 13, 1);
+        Check.dueFault(" " + LEAST, 0, 1);
+        Check.dueFault(LEAST + " " + LEAST, 13, 1);
     }
 
     private static void fiveParts() {
@@ -103,31 +93,31 @@ public final class EdgeTextsTest {
             "a 0e500f0t1d1;", "a0 e500f0t1d1;", "a0e500f0t1d1 ;", "a-1e500f0t1d1;", "a+1e500f0t1d1;",
             "a0e500f0t1d1.0;", "a/e500f0t1d1;", "a:e500f0t1d1;", "a0e500f0t1d/;", "a0e500f0t1d:;"};
         for (String text : texts) {
-            dueFault(text, 0, 1);
+            Check.dueFault(text, 0, 1);
         }
     }
 
     private static void digits() {
         Check.sentence("a number of 1 to 5 digits");
         // No digit at all, in each of the parts.
-        dueFault("ae500f0t1d1;", 0, 1);
-        dueFault("a0ef0t1d1;", 0, 1);
-        dueFault("a0e500ft1d1;", 0, 1);
-        dueFault("a0e500f0td1;", 0, 1);
-        dueFault("a0e500f0t1d;", 0, 1);
+        Check.dueFault("ae500f0t1d1;", 0, 1);
+        Check.dueFault("a0ef0t1d1;", 0, 1);
+        Check.dueFault("a0e500ft1d1;", 0, 1);
+        Check.dueFault("a0e500f0td1;", 0, 1);
+        Check.dueFault("a0e500f0t1d;", 0, 1);
         // Five digits, in each of the parts.
-        dueFault("a00000e00500f00000t00001d00001;", NONE, NONE);
-        dueFault("a35999e08500f43199t43200d00600;", NONE, NONE);
+        Check.dueFault("a00000e00500f00000t00001d00001;", NONE, NONE);
+        Check.dueFault("a35999e08500f43199t43200d00600;", NONE, NONE);
         // Six digits, in each of the parts, with a number in its range.
-        dueFault("a000000e500f0t1d1;", 0, 1);
-        dueFault("a0e000500f0t1d1;", 0, 1);
-        dueFault("a0e500f000000t1d1;", 0, 1);
-        dueFault("a0e500f0t000001d1;", 0, 1);
-        dueFault("a0e500f0t1d000001;", 0, 1);
+        Check.dueFault("a000000e500f0t1d1;", 0, 1);
+        Check.dueFault("a0e000500f0t1d1;", 0, 1);
+        Check.dueFault("a0e500f000000t1d1;", 0, 1);
+        Check.dueFault("a0e500f0t000001d1;", 0, 1);
+        Check.dueFault("a0e500f0t1d000001;", 0, 1);
         // Six digits are a fault of form, five of them one of range.
-        dueFault("a100000e500f0t1d1;", 0, 1);
-        dueFault("a99999e500f0t1d1;", 0, 2);
-        dueFault("a0e500f0t1d4294967297;", 0, 1);
+        Check.dueFault("a100000e500f0t1d1;", 0, 1);
+        Check.dueFault("a99999e500f0t1d1;", 0, 2);
+        Check.dueFault("a0e500f0t1d4294967297;", 0, 1);
         // All ten digits are digits.
         DishPointer x = new DishPointer();
         Check.write(x, "a12345e6789f0t10d98;");
@@ -151,17 +141,17 @@ public final class EdgeTextsTest {
         Check.due(x.enter(), 1);
         Check.dueFrom(0, (dish, what) -> dish.target(0, what), x, 1000, 2000, 3000, 4000, 500, 0);
         String[] parts = {"a600", "e600", "f600", "t601", "d600"};
-        dueFault(String.join("", parts) + ";", NONE, NONE);
+        Check.dueFault(String.join("", parts) + ";", NONE, NONE);
         for (int one = 0; one < 5; one++) {
             for (int other = one + 1; other < 5; other++) {
                 String[] turned = parts.clone();
                 turned[one] = parts[other];
                 turned[other] = parts[one];
-                dueFault(String.join("", turned) + ";", 0, 1);
+                Check.dueFault(String.join("", turned) + ";", 0, 1);
             }
         }
-        dueFault("p1a0e500f0t1d1;", 0, 1);
-        dueFault("a0e500f0t1p1d1;", 0, 1);
+        Check.dueFault("p1a0e500f0t1d1;", 0, 1);
+        Check.dueFault("a0e500f0t1p1d1;", 0, 1);
     }
 
     private static void priority() {
@@ -171,103 +161,103 @@ public final class EdgeTextsTest {
         Check.due(x.fault(0), NONE);
         Check.due(x.enter(), 4);
         Check.dueFrom(0, (dish, number) -> dish.target(number, 5), x, 9, 0, 0, 1);
-        dueFault("a0e500f0t1d1p;", 0, 1);
-        dueFault("a0e500f0t1d1p", 0, 1);
-        dueFault("a0e500f0t1d1p1", 0, 1);
-        dueFault("a0e500f0t1d1P1;", 0, 1);
-        dueFault("a0e500f0t1d1q1;", 0, 1);
-        dueFault("a0e500f0t1d1o1;", 0, 1);
-        dueFault("a0e500f0t1d1p1p1;", 0, 1);
-        dueFault("a0e500f0t1d1pp1;", 0, 1);
-        dueFault("a0e500f0t1d1p-1;", 0, 1);
-        dueFault("a0e500f0t1d1p 1;", 0, 1);
-        dueFault("a0e500f0t1d1p/;", 0, 1);
-        dueFault("a0e500f0t1d1p:;", 0, 1);
+        Check.dueFault("a0e500f0t1d1p;", 0, 1);
+        Check.dueFault("a0e500f0t1d1p", 0, 1);
+        Check.dueFault("a0e500f0t1d1p1", 0, 1);
+        Check.dueFault("a0e500f0t1d1P1;", 0, 1);
+        Check.dueFault("a0e500f0t1d1q1;", 0, 1);
+        Check.dueFault("a0e500f0t1d1o1;", 0, 1);
+        Check.dueFault("a0e500f0t1d1p1p1;", 0, 1);
+        Check.dueFault("a0e500f0t1d1pp1;", 0, 1);
+        Check.dueFault("a0e500f0t1d1p-1;", 0, 1);
+        Check.dueFault("a0e500f0t1d1p 1;", 0, 1);
+        Check.dueFault("a0e500f0t1d1p/;", 0, 1);
+        Check.dueFault("a0e500f0t1d1p:;", 0, 1);
     }
 
     private static void priorityDigits() {
         Check.sentence("2 if a number is out of its range");
-        dueFault("a0e500f0t1d1p9;", NONE, NONE);
-        dueFault("a0e500f0t1d1p10;", 0, 2);
-        dueFault("a0e500f0t1d1p99;", 0, 2);
-        dueFault(LEAST + "a0e500f0t1d1p10;", 13, 2);
+        Check.dueFault("a0e500f0t1d1p9;", NONE, NONE);
+        Check.dueFault("a0e500f0t1d1p10;", 0, 2);
+        Check.dueFault("a0e500f0t1d1p99;", 0, 2);
+        Check.dueFault(LEAST + "a0e500f0t1d1p10;", 13, 2);
     }
 
     private static void faultPosition() {
         Check.sentence("The fault of the text is the position, from 0, of the first character of the first target "
             + "that is not possible");
-        dueFault("x", 0, 1);
-        dueFault(LEAST + "x", 13, 1);
-        dueFault(MOST + "x", 30, 1);
-        dueFault(LEAST + MOST + "x", 43, 1);
-        dueFault("a0e499f0t1d1;x", 0, 2);
-        dueFault("x;a0e499f0t1d1;", 0, 1);
-        dueFault(LEAST + "a0e499f0t1d1;x", 13, 2);
-        dueFault(LEAST + "x;a0e499f0t1d1;", 13, 1);
-        dueFault(LEAST + LEAST + "a0e500f0t1d0;" + LEAST, 26, 2);
+        Check.dueFault("x", 0, 1);
+        Check.dueFault(LEAST + "x", 13, 1);
+        Check.dueFault(MOST + "x", 30, 1);
+        Check.dueFault(LEAST + MOST + "x", 43, 1);
+        Check.dueFault("a0e499f0t1d1;x", 0, 2);
+        Check.dueFault("x;a0e499f0t1d1;", 0, 1);
+        Check.dueFault(LEAST + "a0e499f0t1d1;x", 13, 2);
+        Check.dueFault(LEAST + "x;a0e499f0t1d1;", 13, 1);
+        Check.dueFault(LEAST + LEAST + "a0e500f0t1d0;" + LEAST, 26, 2);
         // Up to the last character that there is room for.
         String six = LEAST + LEAST + LEAST + LEAST + LEAST + LEAST;
-        dueFault(six + "a00000e500f0t1d001p0;;", 99, 1);
-        dueFault(six + LEAST + "a0e500f0", 91, 1);
+        Check.dueFault(six + "a00000e500f0t1d001p0;;", 99, 1);
+        Check.dueFault(six + LEAST + "a0e500f0", 91, 1);
     }
 
     private static void formFault() {
         Check.sentence("its reason is 1 if it is not of this form");
         String text = MOST;
         for (int length = 1; length < text.length(); length++) {
-            dueFault(text.substring(0, length), 0, 1);
+            Check.dueFault(text.substring(0, length), 0, 1);
         }
-        dueFault(text, NONE, NONE);
+        Check.dueFault(text, NONE, NONE);
         for (int place = 0; place < text.length(); place++) {
-            dueFault(text.substring(0, place) + "~" + text.substring(place + 1), 0, 1);
+            Check.dueFault(text.substring(0, place) + "~" + text.substring(place + 1), 0, 1);
         }
     }
 
     private static void rangeFault() {
         Check.sentence("2 if a number is out of its range");
-        dueFault("a35999e500f0t1d1;", NONE, NONE);
-        dueFault("a36000e500f0t1d1;", 0, 2);
-        dueFault("a0e500f0t1d1;", NONE, NONE);
-        dueFault("a0e499f0t1d1;", 0, 2);
-        dueFault("a0e0f0t1d1;", 0, 2);
-        dueFault("a0e8500f0t1d1;", NONE, NONE);
-        dueFault("a0e8501f0t1d1;", 0, 2);
-        dueFault("a0e500f43199t43200d1;", NONE, NONE);
-        dueFault("a0e500f43199t43201d1;", 0, 2);
-        dueFault("a0e500f43200t43201d1;", 0, 2);
-        dueFault("a0e500f0t43200d1;", NONE, NONE);
-        dueFault("a0e500f0t1d0;", 0, 2);
-        dueFault("a0e500f0t1d600;", NONE, NONE);
-        dueFault("a0e500f0t1d601;", 0, 2);
-        dueFault("a0e500f0t1d1p9;", NONE, NONE);
-        dueFault("a0e500f0t1d1p10;", 0, 2);
+        Check.dueFault("a35999e500f0t1d1;", NONE, NONE);
+        Check.dueFault("a36000e500f0t1d1;", 0, 2);
+        Check.dueFault("a0e500f0t1d1;", NONE, NONE);
+        Check.dueFault("a0e499f0t1d1;", 0, 2);
+        Check.dueFault("a0e0f0t1d1;", 0, 2);
+        Check.dueFault("a0e8500f0t1d1;", NONE, NONE);
+        Check.dueFault("a0e8501f0t1d1;", 0, 2);
+        Check.dueFault("a0e500f43199t43200d1;", NONE, NONE);
+        Check.dueFault("a0e500f43199t43201d1;", 0, 2);
+        Check.dueFault("a0e500f43200t43201d1;", 0, 2);
+        Check.dueFault("a0e500f0t43200d1;", NONE, NONE);
+        Check.dueFault("a0e500f0t1d0;", 0, 2);
+        Check.dueFault("a0e500f0t1d600;", NONE, NONE);
+        Check.dueFault("a0e500f0t1d601;", 0, 2);
+        Check.dueFault("a0e500f0t1d1p9;", NONE, NONE);
+        Check.dueFault("a0e500f0t1d1p10;", 0, 2);
     }
 
     private static void emptyWindow() {
         Check.sentence("(also if the window is empty)");
-        dueFault("a0e500f99t100d1;", NONE, NONE);
-        dueFault("a0e500f100t100d1;", 0, 2);
-        dueFault("a0e500f101t100d1;", 0, 2);
-        dueFault("a0e500f0t0d1;", 0, 2);
-        dueFault("a0e500f43200t43200d1;", 0, 2);
-        dueFault("a0e500f43200t0d1;", 0, 2);
+        Check.dueFault("a0e500f99t100d1;", NONE, NONE);
+        Check.dueFault("a0e500f100t100d1;", 0, 2);
+        Check.dueFault("a0e500f101t100d1;", 0, 2);
+        Check.dueFault("a0e500f0t0d1;", 0, 2);
+        Check.dueFault("a0e500f43200t43200d1;", 0, 2);
+        Check.dueFault("a0e500f43200t0d1;", 0, 2);
     }
 
     private static void roomFault() {
         Check.sentence("3 if there is no room for it");
-        dueFault(withTargets(10), LEAST, 0, 3);
-        dueFault(withTargets(10), "", NONE, NONE);
-        dueFault(withTargets(9), LEAST, NONE, NONE);
-        dueFault(withTargets(9), LEAST + LEAST, 13, 3);
-        dueFault(withTargets(8), LEAST + LEAST, NONE, NONE);
-        dueFault(withTargets(8), LEAST + MOST + LEAST + LEAST, 43, 3);
+        Check.dueFault(withTargets(10), LEAST, 0, 3);
+        Check.dueFault(withTargets(10), "", NONE, NONE);
+        Check.dueFault(withTargets(9), LEAST, NONE, NONE);
+        Check.dueFault(withTargets(9), LEAST + LEAST, 13, 3);
+        Check.dueFault(withTargets(8), LEAST + LEAST, NONE, NONE);
+        Check.dueFault(withTargets(8), LEAST + MOST + LEAST + LEAST, 43, 3);
         // Seven short ones are the most that a text holds.
         String seven = LEAST + LEAST + LEAST + LEAST + LEAST + LEAST + LEAST;
-        dueFault(withTargets(3), seven, NONE, NONE);
-        dueFault(withTargets(4), seven, 78, 3);
+        Check.dueFault(withTargets(3), seven, NONE, NONE);
+        Check.dueFault(withTargets(4), seven, 78, 3);
         // Room comes with drop and goes with add.
         DishPointer x = withTargets(10);
-        dueFault(x, LEAST, 0, 3);
+        Check.dueFault(x, LEAST, 0, 3);
         x.drop(5);
         Check.due(x.fault(0), NONE);
         x.add(0, 500, 0, 1, 1, 0);
@@ -276,18 +266,18 @@ public final class EdgeTextsTest {
 
     private static void firstReason() {
         Check.sentence("3 if there is no room for it; the first one of these that applies");
-        dueFault(withTargets(10), LEAST, 0, 3);
-        dueFault(withTargets(10), "a0e499f0t1d1;", 0, 2);
-        dueFault(withTargets(10), "a0e500f1t1d1;", 0, 2);
-        dueFault(withTargets(10), "a0e499f0t1d1", 0, 1);
-        dueFault(withTargets(10), "a0e500f0t1d1", 0, 1);
-        dueFault(withTargets(9), LEAST + "a0e500f0t1d1p10;", 13, 2);
-        dueFault(withTargets(9), LEAST + "a0e500f0t1d1p10", 13, 1);
-        dueFault("a36000e500f0t1d1", 0, 1);
-        dueFault("a36000e500f0t1d1x;", 0, 1);
+        Check.dueFault(withTargets(10), LEAST, 0, 3);
+        Check.dueFault(withTargets(10), "a0e499f0t1d1;", 0, 2);
+        Check.dueFault(withTargets(10), "a0e500f1t1d1;", 0, 2);
+        Check.dueFault(withTargets(10), "a0e499f0t1d1", 0, 1);
+        Check.dueFault(withTargets(10), "a0e500f0t1d1", 0, 1);
+        Check.dueFault(withTargets(9), LEAST + "a0e500f0t1d1p10;", 13, 2);
+        Check.dueFault(withTargets(9), LEAST + "a0e500f0t1d1p10", 13, 1);
+        Check.dueFault("a36000e500f0t1d1", 0, 1);
+        Check.dueFault("a36000e500f0t1d1x;", 0, 1);
         // The first target counts, whatever reason a later one has.
-        dueFault(withTargets(9), LEAST + LEAST + "x", 13, 3);
-        dueFault(withTargets(9), LEAST + LEAST + "a36000e500f0t1d1;", 13, 3);
+        Check.dueFault(withTargets(9), LEAST + LEAST + "x", 13, 3);
+        Check.dueFault(withTargets(9), LEAST + LEAST + "a36000e500f0t1d1;", 13, 3);
     }
 
     private static void fullText() {
@@ -296,7 +286,7 @@ public final class EdgeTextsTest {
         String text = LEAST + LEAST + LEAST + LEAST + LEAST + LEAST + "a00009e0500f0t1d001p7;";
         Check.due(text.length(), 100);
         DishPointer x = new DishPointer();
-        dueFault(x, text, NONE, NONE);
+        Check.dueFault(x, text, NONE, NONE);
         Check.due(x.count(11), 100);
         Check.due(x.type('x'), Check.LIMIT);
         Check.due(x.fault(0), NONE);
@@ -306,7 +296,7 @@ public final class EdgeTextsTest {
         Check.due(x.enter(), Check.NOT_POSSIBLE);
         Check.due(x.fault(0), 39);
         // The last character is cut off: what would follow the hundredth is not there.
-        dueFault(new DishPointer(), text.replace("p7;", "p07;"), 78, 1);
+        Check.dueFault(new DishPointer(), text.replace("p7;", "p07;"), 78, 1);
     }
 
     private static void promise19Ranges() {
@@ -373,13 +363,13 @@ public final class EdgeTextsTest {
 
     private static void promise21NoFault() {
         Check.sentence("NOT_FOUND if the text has no fault (also if it is empty).");
-        dueFault("", NONE, NONE);
-        dueFault(LEAST, NONE, NONE);
-        dueFault(MOST, NONE, NONE);
-        dueFault(MOST + LEAST + MOST, NONE, NONE);
-        dueFault(withTargets(10), "", NONE, NONE);
+        Check.dueFault("", NONE, NONE);
+        Check.dueFault(LEAST, NONE, NONE);
+        Check.dueFault(MOST, NONE, NONE);
+        Check.dueFault(MOST + LEAST + MOST, NONE, NONE);
+        Check.dueFault(withTargets(10), "", NONE, NONE);
         DishPointer x = new DishPointer();
-        dueFault(x, "x", 0, 1);
+        Check.dueFault(x, "x", 0, 1);
         x.clearText();
         Check.due(x.fault(0), NONE);
         Check.due(x.fault(1), NONE);

@@ -311,6 +311,16 @@ public final class EdgeWaysTest {
         Check.dueFrom(18000, (dish, azimuth) -> dish.placeFor(azimuth), x, 18000, -17999);
         Check.due(x.slew(18000, 9000), 14);
         Check.due(x.isWound(), 1);
+        // From below -W, the motor would stand at -17970, within W; the place -18010 is beyond.
+        x = new DishPointer();
+        x.set(1, 27000);
+        x.slew(27000, 9000);
+        x.slew(16000, 9000);
+        Check.due(x.axis(0, 5), -20000);
+        Check.due(x.way(0, -18010, 0), -17970);
+        x.set(1, 18000);
+        Check.due(x.placeFor(17990), 17990);
+        Check.dueFrom(17999, (dish, azimuth) -> dish.placeFor(azimuth), x, 17999, -18000, -17999);
     }
 
     private static void windSetting() {
@@ -516,7 +526,8 @@ public final class EdgeWaysTest {
     }
 
     private static void promise10Beyond() {
-        Check.sentence("Tells whether the cable is wound: the motor of the azimuth stands beyond -W to W.");
+        Check.sentence("Tells whether the cable is wound: the motor of the azimuth stands beyond -W to W.\n\n"
+            + "Returns 1 if it does, otherwise 0.");
         DishPointer x = new DishPointer();
         Check.due(x.isWound(), 0);
         x.set(1, 0);

@@ -20,16 +20,6 @@ public final class TextsTest {
         Check.end();
     }
 
-    private static void dueFault(String text, int place, int reason) {
-        dueFault(new DishPointer(), text, place, reason);
-    }
-
-    private static void dueFault(DishPointer x, String text, int place, int reason) {
-        Check.write(x, text);
-        Check.due("place of fault in " + text, x.fault(0), place);
-        Check.due("reason of fault in " + text, x.fault(1), reason);
-    }
-
     private static void promise19Type() {
         DishPointer x = new DishPointer();
         Check.due(x.type(32), 1);
@@ -69,14 +59,14 @@ public final class TextsTest {
     }
 
     private static void promise21NoFault() {
-        dueFault("", NONE, NONE);
-        dueFault(GOOD, NONE, NONE);
-        dueFault(GOOD + GOOD, NONE, NONE);
-        dueFault("a0e500f0t1d1;", NONE, NONE);
-        dueFault("a0e500f0t1d1p0;", NONE, NONE);
-        dueFault("a35999e8500f43199t43200d600p9;", NONE, NONE);
-        dueFault("a00000e00500f00000t00001d00001p00009;", NONE, NONE);
-        dueFault("a0e500f0t1d1;a0e500f0t1d1;a0e500f0t1d1;a0e500f0t1d1;"
+        Check.dueFault("", NONE, NONE);
+        Check.dueFault(GOOD, NONE, NONE);
+        Check.dueFault(GOOD + GOOD, NONE, NONE);
+        Check.dueFault("a0e500f0t1d1;", NONE, NONE);
+        Check.dueFault("a0e500f0t1d1p0;", NONE, NONE);
+        Check.dueFault("a35999e8500f43199t43200d600p9;", NONE, NONE);
+        Check.dueFault("a00000e00500f00000t00001d00001p00009;", NONE, NONE);
+        Check.dueFault("a0e500f0t1d1;a0e500f0t1d1;a0e500f0t1d1;a0e500f0t1d1;"
             + "a0e500f0t1d1;a0e500f0t1d1;a0e500f0t1d1p1;", NONE, NONE);
     }
 
@@ -88,51 +78,51 @@ public final class TextsTest {
             "a0a0e500f0t1d1;", "a0e500f0t1p1d1;", "a0e500f0t1d1,", "a/e500f0t1d1;", "a:e500f0t1d1;",
             "a0e500f0t1d1p9/;", "~0e500f0t1d1;", "99999;", "aefTd;", "a0e500f0t1d1:"};
         for (String text : texts) {
-            dueFault(text, 0, 1);
+            Check.dueFault(text, 0, 1);
         }
-        dueFault("a0e500f0t1d1;;", 13, 1);
-        dueFault("a0e500f0t1d1; ", 13, 1);
-        dueFault("a0e500f0t1d1;a", 13, 1);
-        dueFault("a0e500f0t1d1; a0e500f0t1d1;", 13, 1);
-        dueFault(GOOD + GOOD + "a0e500f0t1d1", 40, 1);
+        Check.dueFault("a0e500f0t1d1;;", 13, 1);
+        Check.dueFault("a0e500f0t1d1; ", 13, 1);
+        Check.dueFault("a0e500f0t1d1;a", 13, 1);
+        Check.dueFault("a0e500f0t1d1; a0e500f0t1d1;", 13, 1);
+        Check.dueFault(GOOD + GOOD + "a0e500f0t1d1", 40, 1);
     }
 
     private static void promise21Digits() {
-        dueFault("ae500f0t1d1;", 0, 1);
-        dueFault("a0ef0t1d1;", 0, 1);
-        dueFault("a0e500ft1d1;", 0, 1);
-        dueFault("a0e500f0td1;", 0, 1);
-        dueFault("a0e500f0t1d;", 0, 1);
-        dueFault("a000000e500f0t1d1;", 0, 1);
-        dueFault("a0e000500f0t1d1;", 0, 1);
-        dueFault("a0e500f000000t1d1;", 0, 1);
-        dueFault("a0e500f0t000001d1;", 0, 1);
-        dueFault("a0e500f0t1d000001;", 0, 1);
-        dueFault("a0e500f0t1d1p000000;", 0, 1);
-        dueFault("a9999999999e500f0t1d1;", 0, 1);
-        dueFault("a00000e500f0t1d1;", NONE, NONE);
-        dueFault("a99999e500f0t1d1;", 0, 2);
+        Check.dueFault("ae500f0t1d1;", 0, 1);
+        Check.dueFault("a0ef0t1d1;", 0, 1);
+        Check.dueFault("a0e500ft1d1;", 0, 1);
+        Check.dueFault("a0e500f0td1;", 0, 1);
+        Check.dueFault("a0e500f0t1d;", 0, 1);
+        Check.dueFault("a000000e500f0t1d1;", 0, 1);
+        Check.dueFault("a0e000500f0t1d1;", 0, 1);
+        Check.dueFault("a0e500f000000t1d1;", 0, 1);
+        Check.dueFault("a0e500f0t000001d1;", 0, 1);
+        Check.dueFault("a0e500f0t1d000001;", 0, 1);
+        Check.dueFault("a0e500f0t1d1p000000;", 0, 1);
+        Check.dueFault("a9999999999e500f0t1d1;", 0, 1);
+        Check.dueFault("a00000e500f0t1d1;", NONE, NONE);
+        Check.dueFault("a99999e500f0t1d1;", 0, 2);
     }
 
     private static void promise21Range() {
-        dueFault("a36000e500f0t1d1;", 0, 2);
-        dueFault("a0e499f0t1d1;", 0, 2);
-        dueFault("a0e8501f0t1d1;", 0, 2);
-        dueFault("a0e500f43200t43201d1;", 0, 2);
-        dueFault("a0e500f0t43201d1;", 0, 2);
-        dueFault("a0e500f1t1d1;", 0, 2);
-        dueFault("a0e500f2t1d1;", 0, 2);
-        dueFault("a0e500f0t0d1;", 0, 2);
-        dueFault("a0e500f0t1d0;", 0, 2);
-        dueFault("a0e500f0t1d601;", 0, 2);
-        dueFault("a0e500f0t1d1p10;", 0, 2);
-        dueFault("a0e500f0t1d1p99999;", 0, 2);
-        dueFault(GOOD + "a0e500f1t1d1;", 20, 2);
+        Check.dueFault("a36000e500f0t1d1;", 0, 2);
+        Check.dueFault("a0e499f0t1d1;", 0, 2);
+        Check.dueFault("a0e8501f0t1d1;", 0, 2);
+        Check.dueFault("a0e500f43200t43201d1;", 0, 2);
+        Check.dueFault("a0e500f0t43201d1;", 0, 2);
+        Check.dueFault("a0e500f1t1d1;", 0, 2);
+        Check.dueFault("a0e500f2t1d1;", 0, 2);
+        Check.dueFault("a0e500f0t0d1;", 0, 2);
+        Check.dueFault("a0e500f0t1d0;", 0, 2);
+        Check.dueFault("a0e500f0t1d601;", 0, 2);
+        Check.dueFault("a0e500f0t1d1p10;", 0, 2);
+        Check.dueFault("a0e500f0t1d1p99999;", 0, 2);
+        Check.dueFault(GOOD + "a0e500f1t1d1;", 20, 2);
         // A number out of its range goes behind the form.
-        dueFault("a36000e500f0t1d1", 0, 1);
-        dueFault("a36000e500f0t1d1px;", 0, 1);
+        Check.dueFault("a36000e500f0t1d1", 0, 1);
+        Check.dueFault("a36000e500f0t1d1px;", 0, 1);
         // A priority that is not told is 0 again.
-        dueFault("a0e500f0t1d1p9;a0e500f0t1d1;", NONE, NONE);
+        Check.dueFault("a0e500f0t1d1p9;a0e500f0t1d1;", NONE, NONE);
     }
 
     private static void promise21Room() {
@@ -140,16 +130,16 @@ public final class TextsTest {
         for (int i = 0; i < 8; i++) {
             x.add(0, 500, 0, 1, 1, 0);
         }
-        dueFault(x, GOOD + GOOD, NONE, NONE);
-        dueFault(x, GOOD + GOOD + GOOD, 40, 3);
-        dueFault(x, GOOD + GOOD + "a36000e500f0t1d1;", 40, 2);
-        dueFault(x, GOOD + GOOD + "a36000e500f0t1d1", 40, 1);
-        dueFault(x, GOOD + GOOD + GOOD + "x", 40, 3);
+        Check.dueFault(x, GOOD + GOOD, NONE, NONE);
+        Check.dueFault(x, GOOD + GOOD + GOOD, 40, 3);
+        Check.dueFault(x, GOOD + GOOD + "a36000e500f0t1d1;", 40, 2);
+        Check.dueFault(x, GOOD + GOOD + "a36000e500f0t1d1", 40, 1);
+        Check.dueFault(x, GOOD + GOOD + GOOD + "x", 40, 3);
         x.add(0, 500, 0, 1, 1, 0);
-        dueFault(x, GOOD + GOOD, 20, 3);
+        Check.dueFault(x, GOOD + GOOD, 20, 3);
         x.add(0, 500, 0, 1, 1, 0);
-        dueFault(x, GOOD + GOOD, 0, 3);
-        dueFault(x, "", NONE, NONE);
+        Check.dueFault(x, GOOD + GOOD, 0, 3);
+        Check.dueFault(x, "", NONE, NONE);
         x.drop(0);
         Check.write(x, GOOD);
         Check.due(x.fault(0), NONE);
@@ -158,10 +148,10 @@ public final class TextsTest {
     }
 
     private static void promise21FirstFault() {
-        dueFault("a36000e500f0t1d1;;", 0, 2);
-        dueFault(";a36000e500f0t1d1;", 0, 1);
-        dueFault(GOOD + "a36000e500f0t1d1;x", 20, 2);
-        dueFault(GOOD + "x;a36000e500f0t1d1;", 20, 1);
+        Check.dueFault("a36000e500f0t1d1;;", 0, 2);
+        Check.dueFault(";a36000e500f0t1d1;", 0, 1);
+        Check.dueFault(GOOD + "a36000e500f0t1d1;x", 20, 2);
+        Check.dueFault(GOOD + "x;a36000e500f0t1d1;", 20, 1);
     }
 
     private static void promise21Wrong() {
